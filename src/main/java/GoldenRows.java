@@ -99,7 +99,7 @@ public final class GoldenRows {
     }
 
     public int row(int source) {
-        if (!isSource(source) || rows.count >= MOST_ROWS) {
+        if (!isSource(source)) {
             return NONE;
         }
         seen = false;
@@ -190,7 +190,7 @@ public final class GoldenRows {
     }
 
     public int hand(int a, int b, boolean must) {
-        if (a == b || !rows.isAlive(a) || !rows.isAlive(b) || hands.count >= MOST_HANDS) {
+        if (a == b || !rows.isAlive(a) || !rows.isAlive(b)) {
             return NONE;
         }
         seen = false;
@@ -242,9 +242,6 @@ public final class GoldenRows {
 
     public int fix(int row, int field, int value) {
         if (!rows.isAlive(row) || !isField(field) || !isValue(value)) {
-            return NONE;
-        }
-        if (fixes.count >= MOST_FIXES) {
             return NONE;
         }
         return fixes.tell(row, field, value, day);
@@ -436,6 +433,7 @@ public final class GoldenRows {
             forgotten = new boolean[MOST_ROWS];
         }
 
+        /** The new row's number; NONE if there is no room for it. */
         int add(int ofSource, int today) {
             int row = count;
             if (row >= MOST_ROWS) {
@@ -557,6 +555,7 @@ public final class GoldenRows {
             untold = new int[length];
         }
 
+        /** The number of what is told now; NONE if there is no room for it. */
         int tell(int ofRow, int withAim, int newValue, int today) {
             int number = count;
             if (number >= row.length) {
@@ -628,24 +627,46 @@ public final class GoldenRows {
         static final int WORD = 2;
         static final int NUMBER = 3;
 
+        private static final int OTHER = 0;
+        private static final int BLANK = 1;
+        private static final int LETTER = 2;
+        private static final int DIGIT = 3;
+        private static final int SIGN = 4;
+
         int length;
         int kind;
         int place;
         int number;
         private int behind;
         private final int[] bytes;
+        private final int[] sort;
 
         Tape() {
             bytes = new int[MOST_BYTES];
+            sort = new int[MOST_BYTES];
         }
 
         void append(int fourBytes) {
             for (int shift = 24; shift >= 0; shift -= 8) {
                 if (length < MOST_BYTES) {
                     bytes[length] = fourBytes >>> shift & 255;
+                    sort[length] = sortOf(bytes[length]);
                     length++;
                 }
             }
+        }
+
+        private static int sortOf(int c) {
+            if (c >= 'a' && c <= 'z') {
+                return LETTER;
+            }
+            if (c >= '0' && c <= '9') {
+                return DIGIT;
+            }
+            if (c == ';' || c == '(' || c == ')') {
+                return SIGN;
+            }
+            return c == 32 || c == 10 ? BLANK : OTHER;
         }
 
         void rewind() {
@@ -654,23 +675,24 @@ public final class GoldenRows {
         }
 
         void advance() {
-            while (behind < length && isBlank(bytes[behind])) {
+            while (behind < length && sort[behind] == BLANK) {
                 behind++;
             }
             place = behind;
             if (behind >= length) {
                 kind = END;
-            } else if (isLetter(bytes[behind])) {
+            } else if (sort[behind] == LETTER) {
                 takeWord();
-            } else if (isDigit(bytes[behind])) {
+            } else if (sort[behind] == DIGIT) {
                 takeNumber();
             } else {
-                takeSign(bytes[behind]);
+                kind = sort[behind] == SIGN ? bytes[behind] : BAD;
+                behind++;
             }
         }
 
         private void takeWord() {
-            while (behind < length && isLetter(bytes[behind])) {
+            while (behind < length && sort[behind] == LETTER) {
                 behind++;
             }
             kind = behind - place > MOST_LETTERS ? BAD : WORD;
@@ -678,17 +700,12 @@ public final class GoldenRows {
 
         private void takeNumber() {
             number = 0;
-            while (behind < length && isDigit(bytes[behind])) {
+            while (behind < length && sort[behind] == DIGIT) {
                 number = number * 10 + (bytes[behind] - '0');
                 behind++;
             }
-            boolean letterBehind = behind < length && isLetter(bytes[behind]);
+            boolean letterBehind = behind < length && sort[behind] == LETTER;
             kind = letterBehind || behind - place > MOST_DIGITS ? BAD : NUMBER;
-        }
-
-        private void takeSign(int sign) {
-            behind++;
-            kind = sign == ';' || sign == '(' || sign == ')' ? sign : BAD;
         }
 
         boolean reads(String word) {
@@ -701,18 +718,6 @@ public final class GoldenRows {
                 }
             }
             return true;
-        }
-
-        private static boolean isBlank(int c) {
-            return c == 32 || c == 10;
-        }
-
-        private static boolean isLetter(int c) {
-            return c >= 'a' && c <= 'z';
-        }
-
-        private static boolean isDigit(int c) {
-            return c >= '0' && c <= '9';
         }
     }
 
@@ -785,30 +790,28 @@ public final class GoldenRows {
             return true;
         }
 
+        /** Reads an e. An or waits for its second both, as every and behind it binds closer. */
         private boolean readEither(Tape tape, Book book, int depth) {
-            if (!readBoth(tape, book, depth)) {
-                return false;
-            }
-            for (int i = 0; i < MOST_BYTES && tape.reads("or"); i++) {
-                tape.advance();
-                if (!readBoth(tape, book, depth)) {
-                    return false;
-                }
-                book.addStep(Book.OR, 0, 0);
-            }
-            return true;
-        }
-
-        private boolean readBoth(Tape tape, Book book, int depth) {
             if (!readOne(tape, book, depth)) {
                 return false;
             }
-            for (int i = 0; i < MOST_BYTES && tape.reads("and"); i++) {
+            boolean orWaits = false;
+            for (int i = 0; i < MOST_BYTES && (tape.reads("or") || tape.reads("and")); i++) {
+                boolean isOr = tape.reads("or");
+                if (isOr && orWaits) {
+                    book.addStep(Book.OR, 0, 0);
+                }
+                orWaits |= isOr;
                 tape.advance();
                 if (!readOne(tape, book, depth)) {
                     return false;
                 }
-                book.addStep(Book.AND, 0, 0);
+                if (!isOr) {
+                    book.addStep(Book.AND, 0, 0);
+                }
+            }
+            if (orWaits) {
+                book.addStep(Book.OR, 0, 0);
             }
             return true;
         }

@@ -162,6 +162,12 @@ public final class PromiseTest {
         c.due("5: not there before", 0, y.persons(9, 3));
         c.due("5: there from its day on", 1, y.persons(9, 4));
         c.due("5: on whatever day", 1, y.persons(0, 4));
+        y.row(0);
+        c.due("5: one more at once", 2, y.persons(0, 4));
+        c.due("5: no row 10", NO, x.person(10, 0, 0));
+        c.due("5: no row 10", NO, x.value(10, 0, 0, 0));
+        c.due("5: no row 10", NO, x.golden(10, 0, 0, 0));
+        c.due("5: no row 10", 0, x.score(10, 0, 0, 0));
     }
 
     private static void set() {
@@ -277,6 +283,25 @@ public final class PromiseTest {
         // "link" "1 wh" "en s" "ourc" "e;  "
         c.due("10: feed", 20, x.feed(0x6C696E6B, 0x31207768, 0x656E2073, 0x6F757263, 0x653B2020));
         c.due("10: the highest byte first", 1, x.rules());
+        // "link 1" ends the text: what was behind it on the tape is no letter and no digit of it.
+        c.due("10: feed", 20, x.feed(0x6C696E6B, 0x20316161, 0x61616161, 0, 0));
+        x.end(6);
+        c.due("11: no letter behind", NO, x.rules());
+        c.due("11: a token", 2, x.fault(0));
+        c.due("11: the end", 6, x.fault(1));
+        x.feed(0x6C696E6B, 0x20313131, 0x31313131, 0x31313131, 0);
+        x.end(6);
+        x.rules();
+        c.due("11: no digits behind", 2, x.fault(0));
+        x.feed(0x6C696E6B, 0x20313131, 0x31313131, 0x31313131, 0);
+        x.end(3);
+        x.rules();
+        c.due("11: a shorter word", 0, x.fault(1));
+        c.due("11: can't stand", 2, x.fault(0));
+        Check.rules(x, " ".repeat(495) + "bar 1");
+        c.due("10: a digit is the last byte", 500, x.fault(1));
+        Check.rules(x, " ".repeat(496) + "link");
+        c.due("10: a letter is the last byte", 500, x.fault(1));
     }
 
     private static void rulesAndLines() {
@@ -320,6 +345,12 @@ public final class PromiseTest {
         faultIs(1, 5, "link 1234567 when source;");
         faultIs(1, 5, "link 1when source;");
         faultIs(1, 5, "link 0x");
+        faultIs(1, 5, "link 1z");
+        faultIs(2, 0, "z");
+        faultIs(1, 0, "{");
+        faultIs(1, 0, "`");
+        faultIs(1, 0, "/");
+        faultIs(1, 0, ":");
         faultIs(1, 6, "link 1_");
         faultIs(1, 12, "link 1 when ?");
         faultIs(1, 17, "link 1 when same 1a;");
@@ -355,6 +386,8 @@ public final class PromiseTest {
         faultIs(2, 18, "link 1 when near 1;");
         faultIs(2, 19, "link 1 when same 1 1;");
         faultIs(2, 22, "link 1 when source or or source;");
+        faultIs(1, 22, "link 1 when source or ?");
+        faultIs(1, 23, "link 1 when source and ?");
         faultIs(2, 23, "link 1 when source and and source;");
         faultIs(2, 15, "link 1 when not;");
         faultIs(2, 20, "link 1 when source; ;");
@@ -499,6 +532,7 @@ public final class PromiseTest {
         }
         c.due("15: a 21st", NO, x.hand(0, 2, false));
         c.due("15: twenty", 20, x.about(3));
+        c.due("16: no hand 20", false, x.unhand(20));
         c.due("15: it does nothing", 2, x.persons(0, 0));
     }
 
@@ -747,6 +781,7 @@ public final class PromiseTest {
         c.due("23: a 21st", NO, x.fix(0, 1, 99));
         c.due("23: the 20th", 19, x.golden(0, 1, 0, 2));
         c.due("23: twenty", 20, x.about(4));
+        c.due("24: no fix 20", false, x.unfix(20));
         x.unhand(0);
         c.due("23: parted, the own one alone", 0, x.golden(1, 0, 0, 2));
         c.due("23: parted", 999999, x.golden(0, 0, 0, 2));
