@@ -801,7 +801,7 @@ public final class GoldenRows {
                 if (isOr && orWaits) {
                     book.addStep(Book.OR, 0, 0);
                 }
-                orWaits |= isOr;
+                orWaits = orWaits || isOr;
                 tape.advance();
                 if (!readOne(tape, book, depth)) {
                     return false;
@@ -984,7 +984,8 @@ public final class GoldenRows {
         private static final int NUMBER_MASK = 15;
         private static final int WORTH_SHIFT = NUMBER_BITS * MOST_ROWS;
         private static final int CLASH = 1 << 20;
-        private static final long NEVER = Long.MIN_VALUE;
+        // Far below every key, as a worth needs twenty bits in front of the numbers.
+        private static final long NEVER = 1L << 63;
 
         boolean found;
         int persons;

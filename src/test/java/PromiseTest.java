@@ -45,15 +45,6 @@ public final class PromiseTest {
         c.close();
     }
 
-    /** A new object with so many rows of source 0. */
-    private static GoldenRows withRows(int count) {
-        GoldenRows x = new GoldenRows();
-        for (int i = 0; i < count; i++) {
-            x.row(0);
-        }
-        return x;
-    }
-
     private static void newObject() {
         GoldenRows x = new GoldenRows();
         for (int what = 0; what < 8; what++) {
@@ -121,7 +112,7 @@ public final class PromiseTest {
     }
 
     private static void rights() {
-        GoldenRows x = withRows(1);
+        GoldenRows x = Past.rows(1);
         for (int field = 0; field < 6; field++) {
             x.fix(0, field, 100 + field);
         }
@@ -171,7 +162,7 @@ public final class PromiseTest {
     }
 
     private static void set() {
-        GoldenRows x = withRows(2);
+        GoldenRows x = Past.rows(2);
         c.due("6: first", 1, x.set(0, 0, 0, 0));
         c.due("6: edges", 2, x.set(1, 5, 999999, 100000));
         int[][] wrong = {{2, 0, 1, 0}, {-1, 0, 1, 0}, {0, 6, 1, 0}, {0, -1, 1, 0}, {0, 0, -1, 0}, {0, 0, 1000000, 0},
@@ -193,7 +184,7 @@ public final class PromiseTest {
     }
 
     private static void value() {
-        GoldenRows x = withRows(1);
+        GoldenRows x = Past.rows(1);
         x.set(0, 0, 1, 10);
         x.set(0, 0, 2, 5);
         x.later(3);
@@ -224,7 +215,7 @@ public final class PromiseTest {
     }
 
     private static void forget() {
-        GoldenRows x = withRows(3);
+        GoldenRows x = Past.rows(3);
         x.set(1, 0, 5, 0);
         c.due("8: no row", false, x.forget(3));
         c.due("8: no row", false, x.forget(-1));
@@ -446,7 +437,7 @@ public final class PromiseTest {
     }
 
     private static void score() {
-        GoldenRows x = withRows(2);
+        GoldenRows x = Past.rows(2);
         x.later(2);
         x.row(0);
         Check.rules(x, "link 1000 when source; bar 7 when lacks 0;");
@@ -515,7 +506,7 @@ public final class PromiseTest {
     }
 
     private static void hand() {
-        GoldenRows x = withRows(4);
+        GoldenRows x = Past.rows(4);
         c.due("15: a row twice", NO, x.hand(1, 1, true));
         c.due("15: no row", NO, x.hand(0, 4, true));
         c.due("15: no row", NO, x.hand(-1, 0, false));
@@ -537,7 +528,7 @@ public final class PromiseTest {
     }
 
     private static void unhand() {
-        GoldenRows x = withRows(2);
+        GoldenRows x = Past.rows(2);
         x.later(5);
         x.hand(0, 1, true);
         x.later(5);
@@ -560,7 +551,7 @@ public final class PromiseTest {
     }
 
     private static void quarrel() {
-        GoldenRows x = withRows(4);
+        GoldenRows x = Past.rows(4);
         x.set(0, 0, 1, 0);
         x.rights(0, 63);
         x.fix(0, 0, 2);
@@ -582,7 +573,7 @@ public final class PromiseTest {
         x.forget(1);
         c.due("17: a forgotten row binds nothing", 3, x.persons(0, 1));
         c.due("17: nor then", 3, x.persons(0, 0));
-        GoldenRows y = withRows(2);
+        GoldenRows y = Past.rows(2);
         y.hand(0, 1, true);
         y.hand(1, 0, false);
         c.due("17: two of one pair", -2, y.persons(0, 0));
@@ -591,7 +582,7 @@ public final class PromiseTest {
     }
 
     private static void persons() {
-        GoldenRows x = withRows(3);
+        GoldenRows x = Past.rows(3);
         c.due("17: nothing known", 0, x.persons(0, -1));
         c.due("18: nothing known", 0, x.worth(0, -1));
         c.due("19: not there", NO, x.person(0, 0, -1));
@@ -619,7 +610,7 @@ public final class PromiseTest {
 
     /** Rows that quarrel: a chain of links, and one bar that costs more than the links give. */
     private static void parting() {
-        GoldenRows x = withRows(4);
+        GoldenRows x = Past.rows(4);
         Check.rules(x, "link 4 when same 0; link 4 when same 1; link 3 when same 2; bar 9 when same 3;");
         x.set(0, 0, 1, 0);
         x.set(1, 0, 1, 0);
@@ -640,7 +631,7 @@ public final class PromiseTest {
         c.due("18: as the hand says", 7, x.worth(0, 0));
         c.due("19: row 1", 0, x.person(1, 0, 0));
         c.due("19: row 2", 1, x.person(2, 0, 0));
-        GoldenRows y = withRows(10);
+        GoldenRows y = Past.rows(10);
         Check.rules(y, "link 1000 when source;");
         c.due("17: ten rows, one person", 1, y.persons(0, 0));
         c.due("18: 45 pairs", 45000, y.worth(0, 0));
@@ -658,20 +649,8 @@ public final class PromiseTest {
         c.due("17: quarrel", -2, y.persons(0, 0));
     }
 
-    private static GoldenRows person(int... values) {
-        GoldenRows x = new GoldenRows();
-        for (int i = 0; i < values.length; i++) {
-            x.row(i % 6);
-            x.set(i, 0, values[i], 0);
-            if (i > 0) {
-                x.hand(0, i, true);
-            }
-        }
-        return x;
-    }
-
     private static void goldenSums() {
-        GoldenRows x = person(5, 6, 6, 7);
+        GoldenRows x = Past.person(5, 6, 6, 7);
         c.due("20: agreement", 6, x.golden(0, 0, 0, 0));
         c.due("20: of any row of the person", 6, x.golden(3, 0, 0, 0));
         x.trust(3, 0, 3);
@@ -698,7 +677,7 @@ public final class PromiseTest {
     }
 
     private static void goldenTies() {
-        GoldenRows x = person(9, 4, 9, 4);
+        GoldenRows x = Past.person(9, 4, 9, 4);
         c.due("20: of like ones the least", 4, x.golden(0, 0, 9, 0));
         x.set(2, 0, 9, 3);
         c.due("20: of like ones that of the latest day", 9, x.golden(0, 0, 9, 0));
@@ -708,7 +687,7 @@ public final class PromiseTest {
         x.fade(0, 50);
         c.due("20: the younger weighs more", 4, x.golden(0, 0, 4, 0));
         c.due("20: 9: 100 of row 2, 4: 50 of row 3 and none of 1", 9, x.golden(0, 0, 3, 0));
-        GoldenRows y = person(3, 8);
+        GoldenRows y = Past.person(3, 8);
         y.set(0, 0, 3, 100000);
         y.fade(0, 50);
         c.due("20: weights are 0 at least", 3, y.golden(0, 0, 100000, 0));
@@ -717,7 +696,7 @@ public final class PromiseTest {
     }
 
     private static void from() {
-        GoldenRows x = person(5, 6, 6, 7);
+        GoldenRows x = Past.person(5, 6, 6, 7);
         c.due("21: the least number of like ones", 1, x.from(3, 0, 0, 0));
         x.trust(2, 0, 2);
         c.due("21: the greatest weight", 2, x.from(3, 0, 0, 0));
@@ -736,7 +715,7 @@ public final class PromiseTest {
     }
 
     private static void torn() {
-        GoldenRows x = person(5, 6, 6, 7);
+        GoldenRows x = Past.person(5, 6, 6, 7);
         c.due("22: three", 3, x.torn(2, 0, 0, 0));
         c.due("22: none", 0, x.torn(2, 1, 0, 0));
         x.fix(0, 0, 1);
@@ -753,7 +732,7 @@ public final class PromiseTest {
     }
 
     private static void fix() {
-        GoldenRows x = person(5, 6);
+        GoldenRows x = Past.person(5, 6);
         x.row(0);
         c.due("23: none such", NO, x.fix(3, 0, 1));
         c.due("23: none such", NO, x.fix(-1, 0, 1));
@@ -788,7 +767,7 @@ public final class PromiseTest {
     }
 
     private static void unfix() {
-        GoldenRows x = person(5);
+        GoldenRows x = Past.person(5);
         x.fix(0, 0, 1);
         x.later(1);
         x.fix(0, 0, 2);
@@ -863,7 +842,7 @@ public final class PromiseTest {
     }
 
     private static void accept() {
-        GoldenRows x = person(5, 6);
+        GoldenRows x = Past.person(5, 6);
         x.later(3);
         x.rights(1, 1);
         c.due("27: none such", false, x.accept(1, 1));
@@ -895,7 +874,7 @@ public final class PromiseTest {
         c.due("27: a change", 1, x.changes(1));
         c.due("27: 150 versions", false, x.accept(1, 0));
         c.due("27: it is still there", 1, x.changes(1));
-        GoldenRows y = person(5, 6);
+        GoldenRows y = Past.person(5, 6);
         y.rights(1, 1);
         y.accept(1, 0);
         y.forget(0);
@@ -905,7 +884,7 @@ public final class PromiseTest {
     }
 
     private static void refuse() {
-        GoldenRows x = person(5, 6);
+        GoldenRows x = Past.person(5, 6);
         x.rights(1, 3);
         c.due("28: none such", false, x.refuse(1, 1));
         c.due("28: none such", false, x.refuse(1, -1));
@@ -923,7 +902,7 @@ public final class PromiseTest {
         x.set(0, 0, 5, 0);
         c.due("28: that value again", 1, x.changes(1));
         c.due("28: kept", 1, x.change(1, 0, 1));
-        GoldenRows y = withRows(10);
+        GoldenRows y = Past.rows(10);
         y.rights(0, 63);
         for (int field = 0; field < 6; field++) {
             y.fix(0, field, field);
@@ -944,7 +923,7 @@ public final class PromiseTest {
     }
 
     private static void about() {
-        GoldenRows x = withRows(3);
+        GoldenRows x = Past.rows(3);
         x.later(7);
         x.set(0, 0, 1, 0);
         x.set(0, 1, 1, 0);
@@ -972,7 +951,7 @@ public final class PromiseTest {
     }
 
     private static void forgottenEverywhere() {
-        GoldenRows x = person(5, 6, 6);
+        GoldenRows x = Past.person(5, 6, 6);
         x.hand(1, 2, true);
         x.fix(1, 0, 9);
         x.later(3);
@@ -993,7 +972,7 @@ public final class PromiseTest {
     }
 
     private static void asKnown() {
-        GoldenRows x = withRows(2);
+        GoldenRows x = Past.rows(2);
         Check.rules(x, "link 2 when same 0;");
         x.set(0, 0, 1, 5);
         x.set(1, 0, 1, 5);
